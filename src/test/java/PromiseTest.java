@@ -11,6 +11,7 @@ public final class PromiseTest {
         riders();
         roads();
         risesAndWinds();
+        sharesOfTwenty();
         slopesAndClimbs();
         primes();
         primesInRaces();
@@ -187,6 +188,27 @@ public final class PromiseTest {
         }
     }
 
+    /** Behind the seventh place 20 by (q - 1) comes to less and less. */
+    private static void sharesOfTwenty() {
+        BunchRace x = new BunchRace();
+        int[] more = {20, 10, 6, 5, 4, 3, 2, 2, 2, 2, 1, 1, 1, 1, 1, 1, 1, 1, 1};
+        for (int i = 0; i < 20; i++) {
+            x.rider(0, 60, 0, 0);
+        }
+        x.rise(0, 10, 0);
+        order(x, 0, "n>0:0");
+        int minutes = x.race(1);
+        due("power 40 alone", minutes * 40, x.told(0, 7));
+        for (int i = 1; i < 20; i++) {
+            due("share of place " + (i + 1), minutes * (40 * (60 + more[i - 1]) / 100), x.told(i, 7));
+        }
+        order(x, 0, "n>0:2");
+        minutes = x.race(1);
+        for (int i = 1; i < 20; i++) {
+            due("share of place " + (i + 1), minutes * (56 * (60 + more[i - 1]) / 100), x.told(i, 7));
+        }
+    }
+
     private static void slopesAndClimbs() {
         int[][] cases = {
             // rise, climb, pace, power, metres
@@ -260,6 +282,7 @@ public final class PromiseTest {
         due("the race had that prime", 3, x.passed(0, 1));
         x.race(1);
         due("this one has none", NONE, x.passed(0, 1));
+        primesInLaterMinutes();
         BunchRace y = new BunchRace();
         due("ahead of any", NONE, y.passed(0, 1));
         y.rider(0, 60, 0, 0);
@@ -267,6 +290,23 @@ public final class PromiseTest {
         y.race(1);
         due("come to is passed", 0, y.passed(0, 1));
         due("nobody", NONE, y.passed(0, 2));
+    }
+
+    /** Metre 700 at 60 and 33 seconds (from 340 on) and at 60 and 8 (from 660 on): the seconds go by what was left. */
+    private static void primesInLaterMinutes() {
+        BunchRace x = new BunchRace();
+        x.rider(0, 60, 2000, 0);
+        x.rider(1, 60, 2000, 0);
+        order(x, 0, "n=2:1;n>0:9");
+        order(x, 1, "n=2:9;n>0:0");
+        x.prime(700);
+        x.prime(950);
+        x.race(1);
+        due("68 seconds", 1, x.passed(0, 1));
+        due("93 seconds", 0, x.passed(0, 2));
+        // 60 and 56 (610 by 660), 60 and 58 (290 by 300).
+        due("116 seconds", 0, x.passed(1, 1));
+        due("118 seconds", 1, x.passed(1, 2));
     }
 
     private static void crashes() {
@@ -881,10 +921,9 @@ public final class PromiseTest {
         y.keep();
         due("out for good", 1, y.sum(1, 2));
         due("its total stays", 1400, y.sum(1, 0));
-        BunchRace z = far();
-        z.race(1);
-        z.keep();
-        due("20 at first", 1, z.sum(1, 2));
+        // 158 and 131 seconds, 143 and 120 seconds.
+        firstLimit(4, 2, 1);
+        firstLimit(5, 3, 0);
         // The limit goes by the seconds themselves, not by those less seconds off.
         BunchRace w = far();
         w.prime(6999);
@@ -894,6 +933,19 @@ public final class PromiseTest {
         due("totals", 997, w.sum(0, 0));
         due("totals", 1398, w.sum(1, 0));
         due("not out", 0, w.sum(1, 2));
+    }
+
+    /** A second rider that the first limit of 20 hundredths lets through, or not. */
+    private static void firstLimit(int fast, int slow, int out) {
+        BunchRace x = new BunchRace();
+        x.rider(0, 60, 2000, 0);
+        x.rider(1, 60, 2000, 0);
+        order(x, 0, "n>0:" + slow);
+        order(x, 1, "n>0:" + fast);
+        x.race(1);
+        x.keep();
+        due("at first, pace " + slow + " behind pace " + fast, out, x.sum(0, 2));
+        due("those out", out, x.count(6));
     }
 
     private static void sums() {
@@ -1033,6 +1085,15 @@ public final class PromiseTest {
             y.rider(1, 60, 2000, 0);
         }
         due("the first three", 6, y.attempt(1, 500, 0, 0, 1));
+        BunchRace w = new BunchRace();
+        choose(w, 0, "");
+        due("alone", 0, w.rider(0, 60, 2000, 0));
+        due("one rider is enough", 81, w.attempt(0, 500, 0, 0, 1));
+        due("one choice is enough", 0, w.best(0, 500, 1));
+        for (int i = 1; i < 20; i++) {
+            w.rider(i < 17 ? 0 : 1, 60, 2000, 0);
+        }
+        due("the last three", 18 + 19 + 20, w.attempt(1, 500, 0, 0, 1));
         BunchRace z = far();
         choose(z, 0, "n>0:9");
         due("first", 81, z.attempt(1, 500, 0, 0, 1));
@@ -1055,6 +1116,8 @@ public final class PromiseTest {
         due("fast then slow: 660 at 60 seconds, 68 more", 82, x.attempt(1, 660, 1, 0, 1));
         due("from metre 661 on only as it is there: fast in the second minute too", 81, x.attempt(1, 661, 1, 0, 1));
         due("fast then fast", 81, x.attempt(1, 300, 1, 1, 1));
+        order(x, 1, "n>0:5");
+        due("rider 0 alike: fast then slow", 82, x.attempt(0, 660, 1, 0, 1));
         // The foremost of the team changes the orders of all of it.
         BunchRace y = new BunchRace();
         y.rider(0, 60, 2000, 0);
