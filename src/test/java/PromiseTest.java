@@ -1,11 +1,5 @@
-import java.nio.charset.StandardCharsets;
-
 /** For each promise of the document: ordinary calls, the edges it names and wrong inputs, worked out by hand. */
-public final class PromiseTest {
-    private static final int NONE = BunchRace.NONE;
-    private static int calls = 0;
-    private static int wrong = 0;
-
+public final class PromiseTest extends Check {
     public static void main(String[] args) {
         aNewObject();
         riders();
@@ -41,55 +35,7 @@ public final class PromiseTest {
         bests();
         tryingChangesNothing();
         counts();
-        System.out.println(calls + " answers asked, " + wrong + " wrong");
-        if (wrong != 0) {
-            System.exit(1);
-        }
-    }
-
-    private static void due(String call, long want, long got) {
-        calls++;
-        if (want != got) {
-            wrong++;
-            System.out.println(call + " answered " + got + ", due is " + want);
-        }
-    }
-
-    private static void due(String call, boolean want, boolean got) {
-        due(call, want ? 1 : 0, got ? 1 : 0);
-    }
-
-    /** Puts a text on the empty tape. */
-    private static void type(BunchRace x, String text) {
-        x.end(0);
-        byte[] bytes = text.getBytes(StandardCharsets.ISO_8859_1);
-        for (int from = 0; from < bytes.length; from += 20) {
-            int[] words = new int[5];
-            for (int i = 0; i < 20; i++) {
-                int next = from + i < bytes.length ? bytes[from + i] & 255 : 0;
-                words[i / 4] = words[i / 4] << 8 | next;
-            }
-            x.feed(words[0], words[1], words[2], words[3], words[4]);
-        }
-        due("bytes of '" + text + "'", bytes.length, x.count(5));
-    }
-
-    private static void order(BunchRace x, int team, String text) {
-        type(x, text);
-        due("orders(" + team + ") of '" + text + "'", true, x.orders(team));
-    }
-
-    private static void choose(BunchRace x, int number, String text) {
-        type(x, text);
-        due("choice() of '" + text + "'", number, x.choice());
-    }
-
-    /** One rider that always goes with this pace if it can. */
-    private static BunchRace lone(int steady, int full, int climb, int pace) {
-        BunchRace x = new BunchRace();
-        x.rider(0, steady, full, climb);
-        order(x, 0, "n>0:" + pace);
-        return x;
+        finish();
     }
 
     private static void aNewObject() {
