@@ -356,7 +356,9 @@ public final class EdgesOfPromisesTest extends Check {
         for (int place = 1; place <= 20; place++) {
             due("place " + place, place - 1, x.at(place));
         }
+        bounds("place of three", 1, 3, p -> raced(3).at(p) != NONE);
         BunchRace y = raced(19);
+        due("place 0", NONE, y.at(0));
         due("the nineteenth", 18, y.at(19));
         due("nobody is the twentieth", NONE, y.at(20));
         y.rider(0, 60, 2000, 0);
@@ -577,6 +579,12 @@ public final class EdgesOfPromisesTest extends Check {
             due("those out with limit " + c[0], c[1], x.count(6));
             due("team with limit " + c[0], c[2], x.team(3));
         }
+        // The same by lower numbers: 91, 95, 99 and 102 seconds.
+        BunchRace z = ofTeam(3, 4);
+        order(z, 3, "p=1:9;p=2:8;p=3:7;p=4:6");
+        z.race(1);
+        z.keep();
+        due("the fourth does not count", 91 + 95 + 99, z.team(3));
         // The one that is out has the lowest total then, which does not count: 112; 219, 210 and 201.
         BunchRace y = ofTeam(3, 4);
         order(y, 3, "p=1:6;p=2:7;p=3:8;p=4:9");

@@ -85,6 +85,7 @@ public final class EdgesOfStagesTest extends Check {
 
     private static void notInIsOut() {
         BunchRace x = rivals("n>0:5");
+        x.prime(500);
         x.race(1);
         due("told behind the race", 1, x.rider(1, 60, 2000, 0));
         due("not out ahead of the stage", 0, x.sum(1, 2));
@@ -92,7 +93,10 @@ public final class EdgesOfStagesTest extends Check {
         x.keep();
         due("not in, so out", 1, x.sum(1, 2));
         due("does not stand", 0, x.sum(1, 3));
+        due("no total", 0, x.sum(1, 0));
+        due("no points", 0, x.sum(1, 1));
         due("one that was in", 0, x.sum(0, 2));
+        due("its total", 117, x.sum(0, 0));
     }
 
     /** Whether rider 1 is out behind one stage of one kilometre. */
@@ -174,6 +178,19 @@ public final class EdgesOfStagesTest extends Check {
         due("out", 1, y.sum(1, 2));
         y.race(1);
         due("two in the group", 340, y.metres(2, 1));
+        // Nor does it pass a prime: what it had in the race ahead is gone.
+        BunchRace z = byTwoPaces(new int[] {6, 2}, new int[] {8, 4}, new int[] {8, 4});
+        z.prime(1);
+        z.race(1);
+        due("first at the prime", 0, z.passed(0, 1));
+        z.keep();
+        due("out", 1, z.sum(0, 2));
+        z.race(1);
+        due("first at the prime now", 1, z.passed(0, 1));
+        due("second at the prime now", 2, z.passed(0, 2));
+        due("nobody is the third", NONE, z.passed(0, 3));
+        z.keep();
+        due("its points stay", 3 + 4, z.sum(0, 1));
     }
 
     private static void standingByTotals() {
@@ -292,6 +309,10 @@ public final class EdgesOfStagesTest extends Check {
         due("without choices", NONE, withChoices(0).attempt(0, 500, 0, 0, 1));
         due("best without choices", NONE, withChoices(0).best(0, 500, 1));
         due("best of one: the pair alike", 0, withChoices(1).best(0, 500, 1));
+        // Pace 4, as without orders, would be better than the one choice; it is no choice.
+        BunchRace x = rivals("n>0:1", "");
+        choose(x, 0, "n>0:0");
+        due("no choice behind the last", 0, x.best(1, 1, 1));
     }
 
     private static BunchRace withChoices(int choices) {
@@ -319,6 +340,12 @@ public final class EdgesOfStagesTest extends Check {
         due("from the third minute on", 82, x.attempt(1, 301, 1, 0, 1));
         due("from the third minute on", 82, x.attempt(1, 600, 1, 0, 1));
         due("the metres of another team are not asked", 82, x.attempt(1, 460, 1, 0, 1));
+        // The same for rider 0, which is ahead of alike ones: 120 seconds of rider 1.
+        BunchRace y = rivals("", "n>0:5");
+        choose(y, 0, "n>0:9");
+        choose(y, 1, "n>0:0");
+        due("rider 0 at the metre", 82, y.attempt(0, 660, 0, 1, 1));
+        due("rider 0 a metre short", 81, y.attempt(0, 661, 0, 1, 1));
     }
 
     /** Rider 1 is held at metre 400 in the first minute; rider 2 of its team has 300 metres then. */

@@ -115,6 +115,12 @@ public final class EdgesOfTermsTest extends Check {
             due("kilometres", kilometres, x.count(1));
             due("minutes", 2 * kilometres, x.race(1));
             due("metres", 1000 * kilometres, x.told(0, 3));
+            // Each has a rise of its own, the last one too.
+            x.rise(kilometres - 1, 2, 0);
+            x.race(1);
+            int before = 2 * (kilometres - 1);
+            due("to the last one", 1000 * (kilometres - 1), x.metres(0, before));
+            due("in the last one", 1000 * (kilometres - 1) + 470, x.metres(0, before + 1));
         }
     }
 
@@ -344,13 +350,14 @@ public final class EdgesOfTermsTest extends Check {
         }
     }
 
+    /** Pace 9 on a rise of 10 needs 112, so that each hundredth of a share is seen. */
     private static void shareOfTheFirst() {
         for (int wind = -3; wind <= 9; wind++) {
-            // Pace 5 needs 50, so each hundredth of two is seen.
-            BunchRace x = rivals("n>0:5", "n>0:0");
-            x.rise(0, 0, wind);
+            BunchRace x = rivals("n>0:9", "n>0:0");
+            x.rise(0, 10, wind);
             x.race(1);
-            due("work of the first in wind " + wind, 2 * (50 + 2 * wind), x.told(0, 7));
+            due("in behind two minutes", 1000, x.metres(0, 2));
+            due("work of the first in wind " + wind, 2 * (112 * (100 + 4 * wind) / 100), x.told(0, 7));
         }
     }
 
@@ -359,14 +366,14 @@ public final class EdgesOfTermsTest extends Check {
         for (int i = 0; i < 20; i++) {
             x.rider(0, 60, 2000, 0);
         }
-        order(x, 0, "n>0:5");
+        order(x, 0, "n>0:9");
         int[] cut = {20, 10, 6, 5, 4, 3, 2, 2, 2, 2, 1, 1, 1, 1, 1, 1, 1, 1, 1};
-        for (int wind = -3; wind <= 9; wind += 3) {
-            x.rise(0, 0, wind);
+        for (int wind = -3; wind <= 9; wind++) {
+            x.rise(0, 10, wind);
             due("two minutes", 2, x.race(1));
             for (int q = 2; q <= 20; q++) {
                 int share = 60 + 2 * wind + cut[q - 2];
-                due("work of place " + q + " in wind " + wind, 2 * (50 * share / 100), x.told(q - 1, 7));
+                due("work of place " + q + " in wind " + wind, 2 * (112 * share / 100), x.told(q - 1, 7));
             }
         }
         // Behind a gap the count of places begins anew: rider 1 has 420 metres, rider 2 300, each the first.
@@ -471,6 +478,12 @@ public final class EdgesOfTermsTest extends Check {
         z.race(1);
         due("a metre short", 999, z.metres(0, 2));
         due("not in for four minutes more", 6, z.count(7));
+        // Who is in rides no more, though the race goes on.
+        BunchRace w = rivals("n>0:9", "n>0:0");
+        due("minutes", 4, w.race(1));
+        due("work of two minutes", 2 * 82, w.told(0, 7));
+        due("store of two minutes", 2000 - 2 * 22, w.told(0, 4));
+        due("metres stay", 1000, w.metres(0, 4));
     }
 
     /** The last minute begins as many metres ahead of the end; 500 metres a minute. */
@@ -522,6 +535,18 @@ public final class EdgesOfTermsTest extends Check {
         due("no third", NONE, x.passed(0, 3));
         due("3 points, once", 3, x.told(0, 5));
         due("2 points, once", 2, x.told(1, 5));
+        // In later minutes by the metres that were left to it: 700 at 60 and 33 seconds (from 340 with 660) and at
+        // 60 and 8 (from 660 with 300), 950 at 60 and 56 and at 60 and 58.
+        BunchRace y = rivals("n=2:1;n>0:9", "n=2:9;n>0:0");
+        y.prime(700);
+        y.prime(950);
+        y.race(1);
+        due("68 seconds", 1, y.passed(0, 1));
+        due("93 seconds", 0, y.passed(0, 2));
+        due("116 seconds", 0, y.passed(1, 1));
+        due("118 seconds", 1, y.passed(1, 2));
+        due("points at both", 2 + 3, y.told(0, 5));
+        due("points at both", 3 + 2, y.told(1, 5));
     }
 
     private static void comingToTheCrash() {
@@ -691,5 +716,20 @@ public final class EdgesOfTermsTest extends Check {
             due("total of rider " + i, 120 - want[i], x.sum(i, 0));
         }
         due("a fourth is not told", NONE, x.passed(0, 4));
+        // At the second prime they come in another order; rider 3 is the last at both.
+        BunchRace y = rivals("k=1:4;n>0:9", "k=1:5;n>0:8", "k=1:6;n>0:0", "n>0:0");
+        y.prime(300);
+        y.prime(990);
+        y.race(1);
+        int[][] order = {{2, 1, 0}, {1, 0, 2}};
+        for (int prime = 0; prime < 2; prime++) {
+            for (int place = 1; place <= 3; place++) {
+                due("prime " + prime + " place " + place, order[prime][place - 1], y.passed(prime, place));
+            }
+        }
+        int[] both = {1 + 2, 2 + 3, 3 + 1, 0};
+        for (int i = 0; i < 4; i++) {
+            due("points at both of rider " + i, both[i], y.told(i, 5));
+        }
     }
 }

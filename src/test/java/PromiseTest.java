@@ -5,12 +5,10 @@ public final class PromiseTest extends Check {
         riders();
         roads();
         risesAndWinds();
-        sharesOfTwenty();
         slopesAndClimbs();
         primes();
         primesInRaces();
         crashes();
-        crashLots();
         feeding();
         ending();
         faults();
@@ -33,7 +31,6 @@ public final class PromiseTest extends Check {
         attempts();
         attemptSwitches();
         bests();
-        tryingChangesNothing();
         counts();
         finish();
     }
@@ -134,27 +131,6 @@ public final class PromiseTest extends Check {
         }
     }
 
-    /** Behind the seventh place 20 by (q - 1) comes to less and less. */
-    private static void sharesOfTwenty() {
-        BunchRace x = new BunchRace();
-        int[] more = {20, 10, 6, 5, 4, 3, 2, 2, 2, 2, 1, 1, 1, 1, 1, 1, 1, 1, 1};
-        for (int i = 0; i < 20; i++) {
-            x.rider(0, 60, 0, 0);
-        }
-        x.rise(0, 10, 0);
-        order(x, 0, "n>0:0");
-        int minutes = x.race(1);
-        due("power 40 alone", minutes * 40, x.told(0, 7));
-        for (int i = 1; i < 20; i++) {
-            due("share of place " + (i + 1), minutes * (40 * (60 + more[i - 1]) / 100), x.told(i, 7));
-        }
-        order(x, 0, "n>0:2");
-        minutes = x.race(1);
-        for (int i = 1; i < 20; i++) {
-            due("share of place " + (i + 1), minutes * (56 * (60 + more[i - 1]) / 100), x.told(i, 7));
-        }
-    }
-
     private static void slopesAndClimbs() {
         int[][] cases = {
             // rise, climb, pace, power, metres
@@ -228,7 +204,6 @@ public final class PromiseTest extends Check {
         due("the race had that prime", 3, x.passed(0, 1));
         x.race(1);
         due("this one has none", NONE, x.passed(0, 1));
-        primesInLaterMinutes();
         BunchRace y = new BunchRace();
         due("ahead of any", NONE, y.passed(0, 1));
         y.rider(0, 60, 0, 0);
@@ -236,23 +211,6 @@ public final class PromiseTest extends Check {
         y.race(1);
         due("come to is passed", 0, y.passed(0, 1));
         due("nobody", NONE, y.passed(0, 2));
-    }
-
-    /** Metre 700 at 60 and 33 seconds (from 340 on) and at 60 and 8 (from 660 on): the seconds go by what was left. */
-    private static void primesInLaterMinutes() {
-        BunchRace x = new BunchRace();
-        x.rider(0, 60, 2000, 0);
-        x.rider(1, 60, 2000, 0);
-        order(x, 0, "n=2:1;n>0:9");
-        order(x, 1, "n=2:9;n>0:0");
-        x.prime(700);
-        x.prime(950);
-        x.race(1);
-        due("68 seconds", 1, x.passed(0, 1));
-        due("93 seconds", 0, x.passed(0, 2));
-        // 60 and 56 (610 by 660), 60 and 58 (290 by 300).
-        due("116 seconds", 0, x.passed(1, 1));
-        due("118 seconds", 1, x.passed(1, 2));
     }
 
     private static void crashes() {
@@ -304,26 +262,6 @@ public final class PromiseTest extends Check {
         due("both were held", 1, y.told(1, 6));
         due("stands", 600, y.metres(1, 5));
         due("goes on", 900, y.metres(1, 6));
-    }
-
-    private static void crashLots() {
-        for (int part = 1; part <= 100; part += 33) {
-            for (long seed = -3; seed < 40; seed += 7) {
-                BunchRace x = new BunchRace();
-                for (int i = 0; i < 20; i++) {
-                    x.rider(i % 5, 60, 2000, 0);
-                }
-                x.crash(300, part);
-                x.race(seed * 7919193451L);
-                long lot = seed * 7919193451L;
-                for (int i = 0; i < 20; i++) {
-                    lot = lot * 6364136223846793005L + 1442695040888963407L;
-                    boolean held = (lot >>> 33) % 100 < part;
-                    due("lot of " + i, held ? 1 : 0, x.told(i, 6));
-                    due("metres of " + i, held ? 300 : 460, x.metres(i, 1));
-                }
-            }
-        }
     }
 
     private static void feeding() {
@@ -712,8 +650,6 @@ public final class PromiseTest extends Check {
         due("behind the last", NONE, x.groups(8));
         due("groups(-1)", NONE, x.groups(-1));
         due("groups(401)", NONE, x.groups(401));
-        edgeOfGroups(1820, 1);
-        edgeOfGroups(1821, 2);
         chainOfRiders();
         BunchRace z = new BunchRace();
         z.rider(0, 60, 2000, 0);
@@ -725,24 +661,6 @@ public final class PromiseTest extends Check {
         z.race(1);
         due("500 and 460", 2, z.groups(1));
         due("1000 and 1000", 1, z.groups(2));
-    }
-
-    /** Rider 0 crashes in its third minute and may go on behind the sixth; rider 1 has 1800 metres then. */
-    private static void edgeOfGroups(int crash, int want) {
-        BunchRace x = new BunchRace();
-        x.rider(0, 60, 2000, 0);
-        x.rider(1, 60, 2000, 0);
-        x.road(4);
-        order(x, 0, "n>0:9");
-        order(x, 1, "n>0:0");
-        x.crash(crash, 100);
-        x.race(1);
-        due("rider 0 is held", crash, x.metres(0, 6));
-        due("rider 1", 1800, x.metres(1, 6));
-        due("minute 1", 2, x.groups(1));
-        due("minute 3: one is held", 1, x.groups(3));
-        due("minute 5: one is held", 1, x.groups(5));
-        due("minute 6 with the crash at " + crash, want, x.groups(6));
     }
 
     /** 1910, 1890 and 1875 metres behind the sixth minute: each is near enough to the one ahead. */
@@ -945,31 +863,6 @@ public final class PromiseTest extends Check {
         due("lower number", 2, y.sum(0, 3));
         due("higher number", 3, y.sum(2, 3));
         due("the lowest total", 1, y.sum(1, 3));
-        moreOfPointsStandAhead();
-    }
-
-    /** 240 less 10 and 245 less 15 seconds; 10 and 10, 6 and 15 points. */
-    private static void moreOfPointsStandAhead() {
-        BunchRace x = new BunchRace();
-        x.rider(0, 60, 2000, 0);
-        x.rider(1, 60, 2000, 0);
-        x.road(2);
-        order(x, 0, "n>0:5");
-        order(x, 1, "n=2:9;g=4:5;k=0:5;n>0:0");
-        for (int i = 0; i < 5; i++) {
-            x.prime(600);
-        }
-        x.race(1);
-        due("240", 240, x.told(0, 1));
-        due("245", 245, x.told(1, 1));
-        due("by seconds, none off", 1, x.told(0, 2));
-        x.keep();
-        due("totals alike", 230, x.sum(0, 0));
-        due("totals alike", 230, x.sum(1, 0));
-        due("20", 20, x.sum(0, 1));
-        due("21", 21, x.sum(1, 1));
-        due("more points stand ahead", 1, x.sum(1, 3));
-        due("fewer behind", 2, x.sum(0, 3));
     }
 
     private static void teams() {
@@ -1100,38 +993,6 @@ public final class PromiseTest extends Check {
         BunchRace y = new BunchRace();
         choose(y, 0, "");
         due("no riders", NONE, y.best(0, 500, 1));
-    }
-
-    private static void tryingChangesNothing() {
-        BunchRace x = three();
-        x.road(3);
-        x.prime(700);
-        x.crash(900, 50);
-        choose(x, 0, "n>0:0");
-        choose(x, 1, "n>0:9");
-        x.race(12345);
-        String before = all(x);
-        x.best(0, 1500, 77);
-        x.attempt(1, 500, 1, 0, 5);
-        due("nothing is changed", true, before.equals(all(x)));
-        x.race(12345);
-        due("nor in races then", true, before.equals(all(x)));
-    }
-
-    private static String all(BunchRace x) {
-        StringBuilder text = new StringBuilder();
-        for (int rider = 0; rider < 4; rider++) {
-            for (int what = 0; what < 8; what++) {
-                text.append(x.told(rider, what)).append(' ').append(x.sum(rider, what)).append(' ');
-            }
-            for (int minute = 0; minute < 30; minute++) {
-                text.append(x.metres(rider, minute)).append(' ').append(x.groups(minute)).append(' ');
-            }
-        }
-        for (int i = 0; i < 9; i++) {
-            text.append(x.count(i)).append(' ').append(x.at(i)).append(' ').append(x.passed(0, i)).append(' ');
-        }
-        return text.toString();
     }
 
     private static void counts() {

@@ -1,4 +1,5 @@
 import java.io.IOException;
+import java.lang.management.ManagementFactory;
 import java.lang.reflect.Constructor;
 import java.lang.reflect.Field;
 import java.lang.reflect.Method;
@@ -29,9 +30,58 @@ public final class RulesTest {
         face();
         insideClasses();
         words(Files.readString(SOURCE));
+        room();
         System.out.println(wrong == 0 ? "the rules are kept" : wrong + " rules are broken");
         if (wrong != 0) {
             System.exit(1);
+        }
+    }
+
+    /** All calls of a run live in one room: what an object has is made with it, and no call makes more. */
+    private static void room() {
+        if (!(ManagementFactory.getThreadMXBean() instanceof com.sun.management.ThreadMXBean threads)) {
+            return;
+        }
+        everyCall(new BunchRace());
+        long before = threads.getCurrentThreadAllocatedBytes();
+        BunchRace x = new BunchRace();
+        long made = threads.getCurrentThreadAllocatedBytes();
+        everyCall(x);
+        long after = threads.getCurrentThreadAllocatedBytes();
+        must(made - before < 80_000, "rule 12: a new object has " + (made - before) + " bytes");
+        must(after - made < 20_000, "rule 12: the calls made " + (after - made) + " bytes");
+    }
+
+    private static void everyCall(BunchRace x) {
+        for (int i = 0; i < 20; i++) {
+            x.rider(i % 5, 40 + i, 100 * i, i);
+        }
+        x.road(12);
+        x.rise(3, 4, 5);
+        x.prime(1500);
+        x.crash(5000, 50);
+        for (int i = 0; i < 9; i++) {
+            // The text n>0:6 is fed.
+            x.feed(0x6e3e303a, 0x36000000, 0, 0, 0);
+            x.end(5);
+            x.fault();
+            x.orders(i);
+            x.choice();
+        }
+        for (int i = 0; i < 20; i++) {
+            x.race(i);
+            x.keep();
+            x.limit(i);
+            x.told(i, 2);
+            x.at(i);
+            x.passed(0, 1);
+            x.metres(i, i);
+            x.groups(i);
+            x.sum(i, 3);
+            x.team(i);
+            x.attempt(i, 5000, 0, 1, i);
+            x.best(i, 5000, i);
+            x.count(i);
         }
     }
 
